@@ -82,6 +82,10 @@ public final class BillTest {
         y.flat(11, 0, 1);
         read(y, 0, 0, 30);
         check.same("more than a quarter is replaced", y.bill(), 2);
+        HeatShares least = fuelled(800);
+        least.flat(1, 0, 1);
+        read(least, 0, 98, 99);
+        check.same("one unit of a flat of area 1", least.bill(), 0);
     }
 
     private static void promise13WhenDegreesAreNeeded() {
@@ -246,6 +250,10 @@ public final class BillTest {
         dry.bill();
         checkAmounts(dry, 0, 1640, 1640, 720);
         checkAmounts(dry, NONE, 2460, 2460, 1080);
+        dry.flat(50, 1, 1);
+        dry.bill();
+        checkAmounts(dry, 0, 820, 820, 0);
+        checkAmounts(dry, NONE, 3280, 3280, 1800);
     }
 
     private static void checkAmounts(HeatShares x, int tenant, int fixed, int metered, int water) {

@@ -6,6 +6,7 @@ import java.util.function.IntSupplier;
 /** Many runs of calls, the same ones each time: every answer is held against the Oracle's. */
 public final class OracleTest {
     private static final int RUNS = 1500;
+    private static final int FULL_RUNS = 40;
     private static final int CALLS = 100;
     private static final int THREW = 1000000000;
 
@@ -31,7 +32,11 @@ public final class OracleTest {
         Check check = new Check();
         for (int run = 0; run < RUNS && !check.isWrong(); run++) {
             OracleTest test = new OracleTest(check, run);
-            test.run();
+            if (run < FULL_RUNS) {
+                test.runFull();
+            } else {
+                test.run();
+            }
             if (check.isWrong()) {
                 System.out.println("run " + run + ": " + String.join(" ", test.calls));
             }
@@ -53,6 +58,42 @@ public final class OracleTest {
         for (int n = 0; n < CALLS && !check.isWrong(); n++) {
             step();
         }
+    }
+
+    /** Six flats with a change at each time, twenty tenants, twelve layers: as full as can be. */
+    private void runFull() {
+        while (flats < 6) {
+            addFlat();
+        }
+        setAllDegrees();
+        for (int year = 0; year < 2; year++) {
+            for (int n = 0; n < 13; n++) {
+                tellDelivery();
+            }
+            tellStock();
+            for (int n = 0; n < 72; n++) {
+                int at = year == 0 ? n : 71 - n;
+                changeFull(at % 6, at / 6);
+            }
+            for (int f = 0; f < 6; f++) {
+                readFlat(f);
+            }
+            makeBill();
+            same("send", program::send, oracle::send);
+            ask();
+            tellCosts();
+            makeBill();
+            same("send", program::send, oracle::send);
+            ask();
+            close();
+        }
+    }
+
+    private void changeFull(int flat, int time) {
+        if (dice.nextInt(3) == 0) {
+            tellEnter(flat, time);
+        }
+        tellLeave(flat, time);
     }
 
     private void step() {
@@ -167,13 +208,21 @@ public final class OracleTest {
         int flat = flat();
         int time = number(0, 11);
         if (dice.nextInt(3) == 0) {
-            tell("leave(" + flat + "," + time + ")", () -> program.leave(flat, time),
-                    () -> oracle.leave(flat, time));
-            return;
+            tellLeave(flat, time);
+        } else {
+            tellEnter(flat, time);
         }
+    }
+
+    private void tellEnter(int flat, int time) {
         int got = same("enter(" + flat + "," + time + ")", () -> program.enter(flat, time),
                 () -> oracle.enter(flat, time));
         tenants += got < THREW ? 1 : 0;
+    }
+
+    private void tellLeave(int flat, int time) {
+        tell("leave(" + flat + "," + time + ")", () -> program.leave(flat, time),
+                () -> oracle.leave(flat, time));
     }
 
     private void tellDelivery() {

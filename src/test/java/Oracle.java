@@ -4,8 +4,9 @@ import java.util.Arrays;
 import java.util.List;
 
 /**
- * The document once more, written plainly and apart from the program: month by month, in exact
- * fractions, everything found anew for each bill. Calls answer what is due, or throw it.
+ * The document's sums done in another way than the program's: month by month, in exact fractions,
+ * everything found anew for each bill. Calls answer what is due, or throw it. Where the document can
+ * be read in two ways, it reads it as the program does.
  */
 final class Oracle {
     private static final int NONE = -1;

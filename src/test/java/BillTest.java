@@ -6,38 +6,27 @@ public final class BillTest {
     private static final Check check = new Check();
 
     public static void main(String[] args) {
-        promise13WhenItCanBeMade();
-        promise13ByMetersOrByArea();
-        promise13WhenDegreesAreNeeded();
-        promise13CentsThatAreLeft();
-        promise13Stretches();
-        promise13StretchesWithoutDegrees();
-        promise13EqualFractionsOfCutStretches();
-        promise13ReplacedUnits();
-        promise14Amount();
-        promise15Paid();
-        promise16Part();
-        promise17Replaced();
+        check.test("13 bill: when it can be made", BillTest::promise13WhenItCanBeMade);
+        check.test("13 bill: by meters or by area", BillTest::promise13ByMetersOrByArea);
+        check.test("13 bill: when degrees are needed", BillTest::promise13WhenDegreesAreNeeded);
+        check.test("13 bill: cents that are left", BillTest::promise13CentsThatAreLeft);
+        check.test("13 bill: stretches", BillTest::promise13Stretches);
+        check.test("13 bill: no degrees", BillTest::promise13StretchesWithoutDegrees);
+        check.test("13 bill: equal fractions", BillTest::promise13EqualFractionsOfCutStretches);
+        check.test("13 bill: replaced units", BillTest::promise13ReplacedUnits);
+        check.test("13 bill: made twice it says the same", BillTest::billMadeTwice);
+        check.test("13 bill: NONE leaves no bill", BillTest::noBillAfterNone);
+        check.test("14 amount", BillTest::promise14Amount);
+        check.test("14 amount: a tenant who has no span", BillTest::amountWithoutSpan);
+        check.test("14 amount: all amounts are the cost", BillTest::amountsSumUp);
+        check.test("15 paid", BillTest::promise15Paid);
+        check.test("15 paid: whether there is a bill or not", BillTest::paidWithoutBill);
+        check.test("16 part", BillTest::promise16Part);
+        check.test("16 part: the least bill", BillTest::leastParts);
+        check.test("17 replaced", BillTest::promise17Replaced);
+        check.test("17 replaced: by the facts as they are (bill or not)",
+                BillTest::replacedByTheFacts);
         check.end();
-    }
-
-    /** One unit of fuel: no water part, and fixed and metered part are half of the cents each. */
-    private static HeatShares fuelled(int cents) {
-        HeatShares x = new HeatShares();
-        x.deliver(1, cents);
-        x.endStock(0);
-        return x;
-    }
-
-    private static void read(HeatShares x, int flat, int first, int last) {
-        x.reading(flat, 0, first);
-        x.reading(flat, 12, last);
-    }
-
-    private static void setDegrees(HeatShares x, int... degrees) {
-        for (int m = 0; m < 12; m++) {
-            x.degrees(m, m < degrees.length ? degrees[m] : 0);
-        }
     }
 
     private static void promise13WhenItCanBeMade() {
@@ -55,7 +44,7 @@ public final class BillTest {
         check.same("one unit burned", x.bill(), 2);
         x.endStock(-1);
         check.same("no end stock", x.bill(), NONE);
-        HeatShares free = fuelled(0);
+        HeatShares free = Houses.fuelled(0);
         free.flat(1, 0, 1);
         check.same("fuel for nothing", free.bill(), 2);
         check.same("its cost", free.part(1), 0);
@@ -63,36 +52,36 @@ public final class BillTest {
     }
 
     private static void promise13ByMetersOrByArea() {
-        HeatShares x = fuelled(800);
+        HeatShares x = Houses.fuelled(800);
         x.flat(30, 0, 1);
         x.flat(10, 0, 1);
         x.enter(1, 0);
         check.same("no meter is read", x.bill(), 2);
         check.same("10 of 40 by area", x.amount(0, 1), 100);
-        read(x, 0, 0, 30);
+        Houses.read(x, 0, 0, 30);
         check.same("a quarter is replaced", x.bill(), 0);
         check.same("10 of 40 by meters", x.amount(0, 1), 100);
-        read(x, 0, 7, 7);
+        Houses.read(x, 0, 7, 7);
         check.same("all units are 0", x.bill(), 2);
-        read(x, 1, 0, 1);
+        Houses.read(x, 1, 0, 1);
         check.same("all are read", x.bill(), 0);
         check.same("all units are of flat 1", x.amount(0, 1), 400);
-        HeatShares y = fuelled(800);
+        HeatShares y = Houses.fuelled(800);
         y.flat(30, 0, 1);
         y.flat(11, 0, 1);
-        read(y, 0, 0, 30);
+        Houses.read(y, 0, 0, 30);
         check.same("more than a quarter is replaced", y.bill(), 2);
-        HeatShares least = fuelled(800);
+        HeatShares least = Houses.fuelled(800);
         least.flat(1, 0, 1);
-        read(least, 0, 98, 99);
+        Houses.read(least, 0, 98, 99);
         check.same("one unit of a flat of area 1", least.bill(), 0);
     }
 
     private static void promise13WhenDegreesAreNeeded() {
-        HeatShares x = fuelled(800);
+        HeatShares x = Houses.fuelled(800);
         x.flat(30, 0, 1);
         x.flat(10, 0, 1);
-        read(x, 0, 0, 10);
+        Houses.read(x, 0, 0, 10);
         check.same("no change", x.bill(), 0);
         x.enter(0, 0);
         x.leave(1, 0);
@@ -112,16 +101,16 @@ public final class BillTest {
         check.same("an empty flat that is left, with a replaced meter", x.bill(), NONE);
         x.reading(1, 11, 9);
         check.same("readings of a replaced meter part nothing", x.bill(), NONE);
-        setDegrees(x, 99, 1);
+        Houses.setDegrees(x, 99, 1);
         check.same("degrees of 100", x.bill(), 0);
-        setDegrees(x, 99);
+        Houses.setDegrees(x, 99);
         check.same("degrees of 99", x.bill(), NONE);
         x.reading(0, 12, -1);
         check.same("by area they are not needed", x.bill(), 2);
     }
 
     private static void promise13CentsThatAreLeft() {
-        HeatShares x = fuelled(20);
+        HeatShares x = Houses.fuelled(20);
         x.flat(1, 0, 1);
         x.flat(1, 0, 1);
         x.flat(1, 0, 1);
@@ -130,21 +119,21 @@ public final class BillTest {
         x.enter(2, 0);
         x.bill();
         checkFixed("equal fractions", x, 4, 3, 3);
-        HeatShares y = fuelled(20);
+        HeatShares y = Houses.fuelled(20);
         y.flat(1, 0, 1);
         y.flat(2, 0, 1);
         y.enter(0, 0);
         y.enter(1, 0);
         y.bill();
         checkFixed("the greater fraction", y, 3, 7);
-        HeatShares z = fuelled(20);
+        HeatShares z = Houses.fuelled(20);
         z.flat(3, 0, 1);
         z.enter(0, 8);
         z.enter(0, 4);
         z.enter(0, 0);
         z.bill();
         checkFixed("the earlier span", z, 3, 3, 4);
-        HeatShares w = fuelled(22);
+        HeatShares w = Houses.fuelled(22);
         w.flat(3, 0, 1);
         w.enter(0, 8);
         w.enter(0, 4);
@@ -160,24 +149,24 @@ public final class BillTest {
     }
 
     private static void promise13Stretches() {
-        HeatShares x = fuelled(4000);
+        HeatShares x = Houses.fuelled(4000);
         x.flat(5, 0, 1);
-        read(x, 0, 10, 30);
+        Houses.read(x, 0, 10, 30);
         x.reading(0, 3, 16);
         x.enter(0, 6);
-        setDegrees(x, 10, 10, 10, 10, 10, 10, 40);
+        Houses.setDegrees(x, 10, 10, 10, 10, 10, 10, 40);
         check.same("bill", x.bill(), 0);
         check.same("14 units * 40 / 70 of 20", x.amount(0, 1), 800);
         check.same("what is left of 20", x.amount(NONE, 1), 1200);
     }
 
     private static void promise13StretchesWithoutDegrees() {
-        HeatShares x = fuelled(4000);
+        HeatShares x = Houses.fuelled(4000);
         x.flat(5, 0, 2);
-        read(x, 0, 10, 20);
+        Houses.read(x, 0, 10, 20);
         x.reading(0, 3, 13);
         x.enter(0, 6);
-        setDegrees(x, 100);
+        Houses.setDegrees(x, 100);
         check.same("bill", x.bill(), 0);
         check.same("14 units * 6 / 9 of 20", x.amount(0, 1), 933);
         check.same("6 + 14 units * 3 / 9 of 20", x.amount(NONE, 1), 1067);
@@ -185,15 +174,15 @@ public final class BillTest {
 
     /** The shares are 350, 842.5 and 907.5, the last two over divisors that differ. */
     private static void promise13EqualFractionsOfCutStretches() {
-        HeatShares x = fuelled(4200);
+        HeatShares x = Houses.fuelled(4200);
         x.flat(5, 0, 1);
-        read(x, 0, 0, 21);
+        Houses.read(x, 0, 0, 21);
         x.reading(0, 4, 7);
         x.reading(0, 8, 10);
         x.enter(0, 0);
         x.enter(0, 2);
         x.enter(0, 10);
-        setDegrees(x, 10, 5, 5, 10, 0, 30, 0, 0, 3, 4, 5, 28);
+        Houses.setDegrees(x, 10, 5, 5, 10, 0, 30, 0, 0, 3, 4, 5, 28);
         check.same("bill", x.bill(), 0);
         check.same("the first span", x.amount(0, 1), 350);
         check.same("the second span", x.amount(1, 1), 843);
@@ -202,22 +191,48 @@ public final class BillTest {
 
     /** By like flats flat 0 would have 50 * 990 / 152 units, but has 200. */
     private static void promise13ReplacedUnits() {
-        HeatShares x = fuelled(2380);
+        HeatShares x = Houses.fuelled(2380);
         x.flat(50, 0, 1);
         for (int f = 1; f < 6; f++) {
             x.flat(f < 4 ? 50 : 1, 0, 2);
-            read(x, f, 0, 99);
+            Houses.read(x, f, 0, 99);
         }
         x.enter(0, 0);
         check.same("bill", x.bill(), 0);
         check.same("200 units of 1190", x.amount(0, 1), 200);
-        HeatShares y = fuelled(2000);
+        HeatShares y = Houses.fuelled(2000);
         y.flat(7, 0, 1);
         y.flat(2, 0, 2);
-        read(y, 0, 0, 5);
+        Houses.read(y, 0, 0, 5);
         y.enter(1, 0);
         check.same("bill with a fraction", y.bill(), 0);
         check.same("10/7 units of 45/7", y.amount(0, 1), 222);
+    }
+
+    private static void billMadeTwice() {
+        HeatShares x = Houses.busy();
+        check.same("bill", x.bill(), 0);
+        int[] amounts = new int[5];
+        for (int t = 0; t < 5; t++) {
+            amounts[t] = x.amount(t - 1, 3);
+        }
+        check.same("bill again", x.bill(), 0);
+        for (int t = 0; t < 5; t++) {
+            check.same("amount of " + (t - 1), x.amount(t - 1, 3), amounts[t]);
+        }
+    }
+
+    private static void noBillAfterNone() {
+        HeatShares x = Houses.busyBilled();
+        x.degrees(0, 18);
+        check.same("degrees of 99", x.bill(), NONE);
+        check.refuses(STATE, "part", () -> x.part(0));
+        check.refuses(STATE, "amount", () -> x.amount(0, 0));
+        check.refuses(STATE, "send", x::send);
+        check.refuses(STATE, "closeYear", x::closeYear);
+        x.degrees(0, 19);
+        check.same("degrees of 100", x.bill(), 0);
+        check.takes("part", () -> x.part(0));
     }
 
     private static void promise14Amount() {
@@ -229,8 +244,8 @@ public final class BillTest {
         x.enter(0, 0);
         x.deliver(100, 10000);
         x.endStock(0);
-        read(x, 0, 0, 10);
-        read(x, 1, 0, 15);
+        Houses.read(x, 0, 0, 10);
+        Houses.read(x, 1, 0, 15);
         check.same("bill", x.bill(), 0);
         checkAmounts(x, 0, 1640, 1025, 1800);
         checkAmounts(x, NONE, 2460, 3075, 0);
@@ -263,8 +278,50 @@ public final class BillTest {
         check.same("all of " + tenant, x.amount(tenant, 3), fixed + metered + water);
     }
 
+    private static void amountWithoutSpan() {
+        HeatShares x = Houses.fuelled(2400);
+        x.flat(10, 10, 1);
+        x.enter(0, 0);
+        x.bill();
+        checkAmounts(x, NONE, 0, 0, 0);
+        x.closeYear();
+        x.leave(0, 0);
+        Houses.refuel(x, 2400);
+        x.bill();
+        checkAmounts(x, 0, 0, 0, 0);
+        checkAmounts(x, NONE, 1200, 1200, 0);
+    }
+
+    private static void amountsSumUp() {
+        HeatShares x = Houses.busyBilled();
+        int[] parts = {3, 4, 2, 1};
+        for (int what = 0; what < 4; what++) {
+            int sum = 0;
+            for (int t = -1; t < 4; t++) {
+                sum += x.amount(t, what);
+            }
+            check.same("the sum of what " + what, sum, x.part(parts[what]));
+        }
+    }
+
+    private static void paidWithoutBill() {
+        HeatShares x = new HeatShares();
+        x.flat(1, 1, 1);
+        x.enter(0, 0);
+        check.same("nothing", x.paid(0), 0);
+        x.prepay(0, 1);
+        check.same("no bill can be made", x.bill(), NONE);
+        check.same("it was paid all the same", x.paid(0), 1);
+        Houses.refuel(x, 100);
+        x.bill();
+        x.prepay(0, 1);
+        check.same("and after the bill", x.paid(0), 2);
+        x.send();
+        check.same("and after it was sent", x.paid(0), 2);
+    }
+
     private static void promise15Paid() {
-        HeatShares x = fuelled(100);
+        HeatShares x = Houses.fuelled(100);
         x.flat(1, 1, 1);
         x.enter(0, 0);
         x.enter(0, 1);
@@ -308,6 +365,37 @@ public final class BillTest {
         check.refuses(INDEX, "part(most)", () -> x.part(Integer.MAX_VALUE));
     }
 
+    private static void leastParts() {
+        HeatShares x = Houses.fuelled(0);
+        x.flat(1, 1, 1);
+        x.bill();
+        check.same("burned", x.part(0), 1);
+        for (int what = 1; what < 5; what++) {
+            check.same("part " + what + " of no cents", x.part(what), 0);
+        }
+        x.sideCosts(1);
+        x.bill();
+        check.same("cost of one cent", x.part(1), 1);
+        check.same("no water part", x.part(2), 0);
+        check.same("no fixed part", x.part(3), 0);
+        check.same("the cent is metered", x.part(4), 1);
+    }
+
+    private static void replacedByTheFacts() {
+        HeatShares x = Houses.busy();
+        check.same("before the bill", x.replaced(2), HeatShares.LIKE);
+        x.bill();
+        check.same("with the bill", x.replaced(2), HeatShares.LIKE);
+        x.reading(2, 12, 7);
+        check.same("after a fact", x.replaced(2), HeatShares.READ);
+        x.reading(2, 12, -1);
+        x.bill();
+        x.closeYear();
+        check.same("after the year", x.replaced(2), HeatShares.CANNOT);
+        x.reading(0, 12, 60);
+        check.same("without a bill of the year", x.replaced(2), HeatShares.LAST);
+    }
+
     private static void promise17Replaced() {
         HeatShares x = new HeatShares();
         x.flat(50, 1, 1);
@@ -317,13 +405,13 @@ public final class BillTest {
         check.refuses(INDEX, "replaced(least)", () -> x.replaced(Integer.MIN_VALUE));
         check.refuses(INDEX, "replaced(most)", () -> x.replaced(Integer.MAX_VALUE));
         check.same("nothing is read", x.replaced(0), HeatShares.CANNOT);
-        read(x, 0, 5, 5);
+        Houses.read(x, 0, 5, 5);
         check.same("equal readings are read", x.replaced(0), HeatShares.READ);
         check.same("like flats of no units", x.replaced(1), HeatShares.LIKE);
         x.reading(0, 7, 6);
         check.same("a last one that is less", x.replaced(0), HeatShares.CANNOT);
         check.same("nothing like it", x.replaced(1), HeatShares.CANNOT);
-        read(x, 0, 5, 9);
+        Houses.read(x, 0, 5, 9);
         x.reading(0, 8, 6);
         check.same("none is less", x.replaced(0), HeatShares.READ);
         x.reading(0, 8, 5);
@@ -332,9 +420,9 @@ public final class BillTest {
         check.same("the one before is gone", x.replaced(0), HeatShares.READ);
         x.reading(0, 0, -1);
         check.same("none at 0", x.replaced(0), HeatShares.CANNOT);
-        read(x, 0, 0, -1);
+        Houses.read(x, 0, 0, -1);
         check.same("none at 12", x.replaced(0), HeatShares.CANNOT);
-        read(x, 1, 9, 8);
+        Houses.read(x, 1, 9, 8);
         check.same("last less than first", x.replaced(1), HeatShares.CANNOT);
     }
 }

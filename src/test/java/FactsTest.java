@@ -1,4 +1,6 @@
-/** Promises 1 to 12: the facts, their bounds, and that they end the bill. */
+import java.util.function.Consumer;
+
+/** Promises 1 to 12: a new object, the facts, and what ends the bill. */
 public final class FactsTest {
     private static final Class<IllegalArgumentException> ARGUMENT = IllegalArgumentException.class;
     private static final Class<IllegalStateException> STATE = IllegalStateException.class;
@@ -10,21 +12,28 @@ public final class FactsTest {
     private static final Check check = new Check();
 
     public static void main(String[] args) {
-        promise1ANewObject();
-        promise2Flat();
-        promise3Reading();
-        promise4Enter();
-        promise5Leave();
-        promise4And5Spans();
-        promise6Deliver();
-        promise7EndStock();
-        promise8SideCosts();
-        promise9Water();
-        promise10Permille();
-        promise11Degrees();
-        promise12Prepay();
-        everyFactEndsTheBill();
-        whatThrowsLeavesTheBill();
+        aNewObject();
+        check.test("2 flat", FactsTest::promise2Flat);
+        check.test("3 reading", FactsTest::promise3Reading);
+        check.test("3 reading: value -1 takes it away", FactsTest::readingTakenAway);
+        check.test("4 enter", FactsTest::promise4Enter);
+        check.test("5 leave", FactsTest::promise5Leave);
+        check.test("4 and 5: spans", FactsTest::promise4And5Spans);
+        check.test("6 deliver", FactsTest::promise6Deliver);
+        check.test("7 endStock", FactsTest::promise7EndStock);
+        check.test("7 endStock: -1, it is not given", FactsTest::endStockNotGiven);
+        check.test("7 endStock: more deliveries leave it", FactsTest::deliveriesLeaveEndStock);
+        check.test("8 sideCosts", FactsTest::promise8SideCosts);
+        check.test("9 water", FactsTest::promise9Water);
+        check.test("9 water: litres -1, not measured", FactsTest::waterNotMeasured);
+        check.test("10 permille", FactsTest::promise10Permille);
+        check.test("11 degrees", FactsTest::promise11Degrees);
+        check.test("12 prepay", FactsTest::promise12Prepay);
+        check.test("12 prepay: this ends no bill", FactsTest::prepayEndsNoBill);
+        whatEndsTheBill();
+        whatEndsNoBill();
+        check.test("what was sent stays", FactsTest::whatWasSentStays);
+        check.test("what throws leaves the bill", FactsTest::whatThrowsLeavesTheBill);
         check.end();
     }
 
@@ -39,37 +48,107 @@ public final class FactsTest {
         return x;
     }
 
-    private static void promise1ANewObject() {
-        HeatShares x = new HeatShares();
-        check.same("bill of no flats", x.bill(), NONE);
+    private static void aNewObject() {
+        check.test("1: no flats", FactsTest::newHasNoFlats);
+        check.test("1: no tenants, nothing sent and no bill", FactsTest::newHasNoBill);
+        check.test("1: no fuel", FactsTest::newHasNoFuel);
+        check.test("1: no side costs", FactsTest::newHasNoSideCosts);
+        check.test("1: permille 500", FactsTest::newHasPermille500);
+        check.test("1: degrees 0", FactsTest::newHasDegrees0);
+        check.test("1: litres not measured", FactsTest::newHasNoLitres);
+        check.test("1: the end stock not given", FactsTest::newHasNoEndStock);
+        check.test("1: two objects have nothing in common", FactsTest::objectsAreApart);
+    }
+
+    private static void newHasNoFlats() {
+        HeatShares x = Houses.fuelled(100);
+        check.same("bill of fuel without flats", x.bill(), NONE);
         check.refuses(INDEX, "replaced of no flat", () -> x.replaced(0));
         check.refuses(INDEX, "known of no flat", () -> x.known(0));
+        check.same("the first flat", x.flat(1, 1, 1), 0);
+        check.same("a flat has no reading", x.replaced(0), HeatShares.CANNOT);
+        check.same("nor known units", x.known(0), NONE);
+        check.same("the first tenant", x.enter(0, 0), 0);
+        check.same("who paid nothing", x.paid(0), 0);
+        check.same("and got nothing", x.sent(0), 0);
+    }
+
+    private static void newHasNoBill() {
+        HeatShares x = new HeatShares();
         check.refuses(INDEX, "paid of no tenant", () -> x.paid(0));
         check.refuses(INDEX, "sent of no tenant", () -> x.sent(0));
         check.same("sent to the landlord", x.sent(NONE), 0);
         check.refuses(STATE, "part of no bill", () -> x.part(0));
+        check.same("bill of nothing", x.bill(), NONE);
+        check.refuses(STATE, "part of nothing", () -> x.part(0));
+    }
+
+    private static void newHasNoFuel() {
+        HeatShares x = new HeatShares();
+        x.flat(50, 50, 1);
         check.refuses(ARGUMENT, "endStock of no fuel", () -> x.endStock(1));
         x.endStock(0);
-        x.deliver(1000, 20000);
-        check.same("bill of fuel without flats", x.bill(), NONE);
+        check.same("bill of no fuel", x.bill(), NONE);
+        for (int n = 0; n < 12; n++) {
+            x.deliver(1, 1);
+        }
+        x.bill();
+        check.same("no fuel before", x.part(0), 12);
+    }
+
+    private static void newHasNoSideCosts() {
+        HeatShares x = Houses.fuelled(20000);
         x.flat(50, 50, 1);
-        check.same("bill of all units", x.bill(), 2);
-        check.same("no fuel before", x.part(0), 1000);
-        check.same("no side costs", x.part(1), 20000);
-        check.same("litres not measured: 180 of 1000", x.part(2), 3600);
-        check.same("permille 500", x.part(3), 8200);
+        x.bill();
+        check.same("the fuel's cents alone", x.part(1), 20000);
         check.same("the flat is empty", x.amount(NONE, 3), 20000);
-        HeatShares y = new HeatShares();
-        y.flat(50, 50, 1);
-        y.deliver(1, 1);
-        check.same("the end stock not given", y.bill(), NONE);
-        y.endStock(0);
-        y.reading(0, 0, 0);
-        y.reading(0, 12, 1);
-        y.leave(0, 5);
-        check.same("degrees 0", y.bill(), NONE);
-        y.degrees(11, 100);
-        check.same("degrees 100", y.bill(), 0);
+    }
+
+    private static void newHasPermille500() {
+        HeatShares x = Houses.fuelled(20000);
+        x.flat(50, 50, 1);
+        x.bill();
+        check.same("fixed", x.part(3), 10000);
+        check.same("metered", x.part(4), 10000);
+    }
+
+    private static void newHasDegrees0() {
+        HeatShares x = Houses.fuelled(200);
+        x.flat(50, 50, 1);
+        Houses.read(x, 0, 0, 1);
+        x.leave(0, 5);
+        check.same("degrees 0", x.bill(), NONE);
+        for (int m = 0; m < 12; m++) {
+            x.degrees(m, 100);
+            check.same("all other months have 0: " + m, x.bill(), 0);
+            x.degrees(m, 0);
+        }
+    }
+
+    private static void newHasNoLitres() {
+        HeatShares x = new HeatShares();
+        x.flat(50, 50, 1);
+        x.deliver(1000, 20000);
+        x.endStock(0);
+        x.bill();
+        check.same("180 of 1000", x.part(2), 3600);
+    }
+
+    private static void newHasNoEndStock() {
+        HeatShares x = new HeatShares();
+        x.flat(50, 50, 1);
+        x.deliver(1, 1);
+        check.same("it is not given", x.bill(), NONE);
+        x.endStock(0);
+        check.same("it is given", x.bill(), 2);
+    }
+
+    private static void objectsAreApart() {
+        HeatShares x = Houses.busySent();
+        String before = Probe.of(new HeatShares());
+        x.closeYear();
+        check.sameWords("a new object beside a used one", Probe.of(new HeatShares()), before);
+        check.refuses(INDEX, "a flat of the other", () -> new HeatShares().known(0));
     }
 
     private static void promise2Flat() {
@@ -126,6 +205,24 @@ public final class FactsTest {
         x.reading(0, 12, 65);
         x.bill();
         check.same("a reading said anew: 15 units of 45", x.amount(0, 1), 1367);
+    }
+
+    private static void readingTakenAway() {
+        for (int t = 0; t <= 12; t++) {
+            HeatShares x = Houses.fuelled(200);
+            x.flat(10, 10, 1);
+            for (int all = 0; all <= 12; all++) {
+                x.reading(0, all, all);
+            }
+            int inside = Math.max(1, Math.min(11, t));
+            x.leave(0, inside);
+            check.same("all are there", x.bill(), 0);
+            x.reading(0, t, -1);
+            int due = t == 0 || t == 12 ? HeatShares.CANNOT : HeatShares.READ;
+            check.same("taken away at " + t, x.replaced(0), due);
+            check.same("bill", x.bill(), t == 0 || t == 12 ? 2 : NONE);
+            check.takes("none there to take away", () -> x.reading(0, inside, -1));
+        }
     }
 
     private static void promise4Enter() {
@@ -241,13 +338,36 @@ public final class FactsTest {
         checkStock(x, 5, 17, 1500);
         checkStock(x, 4, 18, 1500 + 900 - 720);
         checkStock(x, 0, 22, 2400);
+    }
+
+    private static void endStockNotGiven() {
+        HeatShares x = smallHouse();
+        check.same("it is given", x.bill(), 2);
         x.endStock(-1);
         check.same("it is taken away", x.bill(), NONE);
-        x.endStock(3);
+        check.takes("it was not there", () -> x.endStock(-1));
+        check.same("it is not given", x.bill(), NONE);
+        x.endStock(0);
+        check.same("an end stock of 0 is given", x.bill(), 2);
+    }
+
+    private static void deliveriesLeaveEndStock() {
+        HeatShares x = new HeatShares();
+        x.flat(1, 1, 1);
+        x.deliver(5, 900);
+        x.endStock(5);
+        check.same("nothing is burned", x.bill(), NONE);
         x.deliver(2, 100);
+        check.same("two units are burned", x.bill(), 2);
+        check.same("as the end stock is what it was", x.part(0), 2);
+        check.same("two of the older layer", x.part(1), 1000 - 100 - 540);
+        x.endStock(0);
+        x.deliver(1, 7);
         x.bill();
-        check.same("a delivery leaves the end stock", x.part(0), 21);
-        check.same("one of the layer before it", x.part(1), 2500 - 100 - 180);
+        check.same("an end stock of 0 too", x.part(0), 8);
+        x.endStock(-1);
+        x.deliver(1, 7);
+        check.same("and one that is not given", x.bill(), NONE);
     }
 
     private static void checkStock(HeatShares x, int stock, int burned, int cost) {
@@ -298,6 +418,14 @@ public final class FactsTest {
         x.endStock(1);
         checkWater(x, -1, 0, 17 * 100);
         checkWater(x, 10000000, 100, 39 * 100);
+    }
+
+    private static void waterNotMeasured() {
+        HeatShares x = smallHouse();
+        checkWater(x, 0, 100, 0);
+        checkWater(x, -1, 100, 1800);
+        checkWater(x, -1, 0, 1800);
+        checkWater(x, 0, 0, 0);
     }
 
     private static void checkWater(HeatShares x, int litres, int gap, int part) {
@@ -390,32 +518,92 @@ public final class FactsTest {
         check.same("it ends no bill", x.part(0), 100);
     }
 
-    private static void everyFactEndsTheBill() {
+    private static void prepayEndsNoBill() {
         HeatShares x = smallHouse();
-        endsTheBill(x, "reading", () -> x.reading(0, 5, 1));
-        endsTheBill(x, "the same reading", () -> x.reading(0, 5, 1));
-        endsTheBill(x, "no reading", () -> x.reading(1, 5, -1));
-        endsTheBill(x, "enter", () -> x.enter(0, 5));
-        endsTheBill(x, "leave", () -> x.leave(1, 0));
-        endsTheBill(x, "deliver", () -> x.deliver(1, 1));
-        endsTheBill(x, "endStock", () -> x.endStock(1));
-        endsTheBill(x, "the same endStock", () -> x.endStock(1));
-        endsTheBill(x, "the same sideCosts", () -> x.sideCosts(0));
-        endsTheBill(x, "the same water", () -> x.water(-1, 0));
-        endsTheBill(x, "the same permille", () -> x.permille(500));
-        endsTheBill(x, "the same degrees", () -> x.degrees(3, 0));
-        endsTheBill(x, "flat", () -> x.flat(1, 1, 1));
-        x.endStock(-1);
-        check.refuses(STATE, "part after endStock(-1)", () -> x.part(0));
+        x.bill();
+        x.prepay(0, 20000);
+        check.same("the bill stays", x.amount(0, 3), 5080);
+        check.same("it can be sent", x.send(), 2);
+        x.prepay(0, 0);
+        check.same("and is not less what was paid", x.amount(0, 3), 5080);
     }
 
-    private static void endsTheBill(HeatShares x, String what, Runnable call) {
-        check.same("bill before " + what, x.bill(), 2);
-        call.run();
-        check.refuses(STATE, "part after " + what, () -> x.part(0));
-        check.refuses(STATE, "amount after " + what, () -> x.amount(NONE, 0));
-        check.refuses(STATE, "send after " + what, x::send);
-        check.refuses(STATE, "closeYear after " + what, x::closeYear);
+    private static void whatEndsTheBill() {
+        endsTheBill("flat", x -> x.flat(1, 1, 1));
+        endsTheBill("reading", x -> x.reading(0, 5, 1));
+        endsTheBill("reading that says what there is", x -> x.reading(0, 7, 9));
+        endsTheBill("reading -1", x -> x.reading(0, 7, -1));
+        endsTheBill("reading -1 that says what there is", x -> x.reading(1, 5, -1));
+        endsTheBill("enter", x -> x.enter(0, 5));
+        endsTheBill("leave", x -> x.leave(0, 5));
+        endsTheBill("leave that says what there is", x -> x.leave(1, 0));
+        endsTheBill("deliver", x -> x.deliver(1, 1));
+        endsTheBill("endStock", x -> x.endStock(1));
+        endsTheBill("endStock that says what there is", x -> x.endStock(0));
+        endsTheBill("endStock -1", x -> x.endStock(-1));
+        endsTheBill("sideCosts", x -> x.sideCosts(1));
+        endsTheBill("sideCosts that says what there is", x -> x.sideCosts(0));
+        endsTheBill("water", x -> x.water(1, 1));
+        endsTheBill("water that says what there is", x -> x.water(-1, 0));
+        endsTheBill("permille", x -> x.permille(501));
+        endsTheBill("permille that says what there is", x -> x.permille(500));
+        endsTheBill("degrees", x -> x.degrees(3, 1));
+        endsTheBill("degrees that says what there is", x -> x.degrees(3, 0));
+        endsTheBill("closeYear", HeatShares::closeYear);
+    }
+
+    private static void endsTheBill(String what, Consumer<HeatShares> call) {
+        check.test("ends the bill: " + what, () -> {
+            HeatShares x = smallHouse();
+            x.reading(0, 7, 9);
+            check.same("bill", x.bill(), 2);
+            call.accept(x);
+            check.refuses(STATE, "part", () -> x.part(0));
+            check.refuses(STATE, "amount", () -> x.amount(NONE, 0));
+            check.refuses(STATE, "send", x::send);
+            check.refuses(STATE, "closeYear", x::closeYear);
+        });
+    }
+
+    private static void whatEndsNoBill() {
+        endsNoBill("prepay", x -> x.prepay(0, 1));
+        endsNoBill("bill", HeatShares::bill);
+        endsNoBill("amount", x -> x.amount(0, 3));
+        endsNoBill("paid", x -> x.paid(0));
+        endsNoBill("part", x -> x.part(0));
+        endsNoBill("replaced", x -> x.replaced(0));
+        endsNoBill("send", HeatShares::send);
+        endsNoBill("sent", x -> x.sent(0));
+        endsNoBill("known", x -> x.known(0));
+    }
+
+    private static void endsNoBill(String what, Consumer<HeatShares> call) {
+        check.test("ends no bill: " + what, () -> {
+            HeatShares x = smallHouse();
+            x.bill();
+            call.accept(x);
+            check.same("the bill's cost", x.part(1), 10000);
+            check.same("a tenant's amount", x.amount(0, 3), 5080);
+            check.takes("send", x::send);
+            check.takes("closeYear", x::closeYear);
+        });
+    }
+
+    private static void whatWasSentStays() {
+        HeatShares x = smallHouse();
+        x.bill();
+        x.send();
+        x.sideCosts(1000);
+        check.same("after a fact", x.sent(0), 5080);
+        check.same("the landlord's", x.sent(NONE), 4920);
+        x.endStock(100);
+        check.same("a bill that can't be made", x.bill(), NONE);
+        check.same("after it", x.sent(0), 5080);
+        x.endStock(0);
+        x.bill();
+        check.same("after a bill that is not sent", x.sent(0), 5080);
+        x.send();
+        check.same("the difference is sent", x.sent(0), 508);
     }
 
     private static void whatThrowsLeavesTheBill() {

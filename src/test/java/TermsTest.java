@@ -423,11 +423,11 @@ public final class TermsTest {
                 TermsTest::partsRoundedDown);
     }
 
-    /** A unit costs 100 cents, so that the water part tells the water units. */
+    /** A unit costs 10 cents, so that the water part tells the water units. */
     private static HeatShares burning(int units) {
         HeatShares x = new HeatShares();
         x.flat(10, 10, 1);
-        x.deliver(units, 100 * units);
+        x.deliver(units, 10 * units);
         x.endStock(0);
         return x;
     }
@@ -435,7 +435,7 @@ public final class TermsTest {
     private static void checkWaterUnits(HeatShares x, int litres, int gap, int units) {
         x.water(litres, gap);
         x.bill();
-        check.same("water part of water(" + litres + ", " + gap + ")", x.part(2), 100 * units);
+        check.same("water part of water(" + litres + ", " + gap + ")", x.part(2), 10 * units);
     }
 
     private static void measuredUnits() {
@@ -447,6 +447,20 @@ public final class TermsTest {
         checkWaterUnits(x, 1, 100, 0);
         checkWaterUnits(x, 200, 99, 22);
         checkWaterUnits(x, 200, 100, 23);
+        HeatShares most = burningMost();
+        checkWaterUnits(most, 3478260, 1, 3999);
+        checkWaterUnits(most, 3478261, 1, 4000);
+    }
+
+    /** As much as can be burned in a year. */
+    private static HeatShares burningMost() {
+        HeatShares x = new HeatShares();
+        x.flat(10, 10, 1);
+        for (int n = 0; n < 12; n++) {
+            x.deliver(1000, 10000);
+        }
+        x.endStock(0);
+        return x;
     }
 
     private static void mostWaterUnits() {
@@ -459,6 +473,9 @@ public final class TermsTest {
         checkWaterUnits(burning(2), 40000, 1, 0);
         checkWaterUnits(burning(3), 40000, 1, 1);
         checkWaterUnits(burning(1), 40000, 1, 0);
+        checkWaterUnits(burningMost(), 4173914, 1, 4800);
+        checkWaterUnits(burningMost(), 4173913, 1, 4799);
+        checkWaterUnits(burningMost(), 4174783, 1, 4800);
     }
 
     private static void unitsNotMeasured() {
@@ -468,6 +485,7 @@ public final class TermsTest {
         checkWaterUnits(burning(11), -1, 50, 1);
         checkWaterUnits(burning(12), -1, 50, 2);
         checkWaterUnits(burning(100), -1, 0, 18);
+        checkWaterUnits(burningMost(), -1, 0, 2160);
     }
 
     private static void noWater() {
@@ -782,6 +800,20 @@ public final class TermsTest {
         check.same("4 * 2 is more than 5 + 1 + 1", billOfAreas(5, 1, 1), 2);
         check.same("4 * 50 is 50 * 4", billOfAreas(50, 50, 50, 50), 2);
         check.same("none is replaced", billOfAreas(1), 0);
+        for (int flat = 0; flat < 4; flat++) {
+            check.same("flat " + flat + " of area 15 of 60", billWithout(flat, 15), 0);
+            check.same("flat " + flat + " of area 16 of 61", billWithout(flat, 16), 2);
+        }
+    }
+
+    /** Four flats, all of area 15 but one, whose meter is not read. */
+    private static int billWithout(int replaced, int area) {
+        HeatShares x = Houses.fuelled(8000);
+        for (int f = 0; f < 4; f++) {
+            x.flat(f == replaced ? area : 15, 0, 1);
+            Houses.read(x, f, 0, f == replaced ? -1 : 1);
+        }
+        return x.bill();
     }
 
     /** The first flat's meter is read, the others' are not. */
@@ -817,6 +849,7 @@ public final class TermsTest {
         check.test("or, if all water areas are 0, like the fixed one", TermsTest::noWaterArea);
         check.test("by area like the fixed one", TermsTest::meteredByArea);
         check.test("a flat has units / all units: none and all", TermsTest::noneAndAllUnits);
+        check.test("a flat has units / all units: one unit of one flat", TermsTest::oneUnit);
         check.test("STRETCHES between two readings one behind the other", TermsTest::stretches);
         check.test("for a replaced one in one from 0 to 12", TermsTest::replacedStretch);
         check.test("if all these are 0, by the months", TermsTest::stretchWithoutDegrees);
@@ -830,8 +863,8 @@ public final class TermsTest {
         x.flat(50, 0, 1);
         x.enter(1, 0);
         x.bill();
-        check.same("one month of 12", x.amount(0, 2), 150);
-        check.same("eleven months of 12", x.amount(NONE, 2), 1650);
+        check.same("one month of 12", x.amount(0, 2), 15);
+        check.same("eleven months of 12", x.amount(NONE, 2), 165);
         check.same("no water area", x.amount(1, 2), 0);
     }
 
@@ -872,6 +905,15 @@ public final class TermsTest {
         check.same("bill", x.bill(), 0);
         check.same("no units", x.amount(0, 1), 0);
         check.same("all units", x.amount(1, 1), 4800);
+    }
+
+    private static void oneUnit() {
+        HeatShares x = Houses.fuelled(800);
+        x.flat(1, 0, 1);
+        x.enter(0, 0);
+        Houses.read(x, 0, 98, 99);
+        check.same("bill", x.bill(), 0);
+        check.same("all of the metered part", x.amount(0, 1), 400);
     }
 
     /** Stretches of 1, 0 and 9 units; the change at 11 cuts the last one, from 2 to 12. */
@@ -948,6 +990,7 @@ public final class TermsTest {
                 TermsTest::flatBeforeTime);
         check.test("each part has its own cents that are left", TermsTest::eachPartAlone);
         check.test("no cent is left", TermsTest::noCentIsLeft);
+        check.test("cents that are left in a full house of 72 spans", TermsTest::centsOf72Spans);
     }
 
     private static HeatShares flatsOf(int cents, int... areas) {
@@ -1035,6 +1078,28 @@ public final class TermsTest {
     private static void noCentIsLeft() {
         checkFixed(flatsOf(18, 2, 3, 4), 2, 3, 4);
         checkFixed(flatsOf(12, 7, 7, 7, 7, 7, 7), 1, 1, 1, 1, 1, 1);
+    }
+
+    /**
+     * Beside 1000 cents for each span there are 12 of water, 29 fixed and 30 metered, one each for
+     * the first spans: of tenants 0 .. 11 in flat 0, 12 .. 19 in flat 1, then of the landlord.
+     */
+    private static void centsOf72Spans() {
+        HeatShares x = Houses.full();
+        x.sideCosts(71);
+        check.same("bill", x.bill(), 0);
+        check.same("water part", x.part(2), 72 * 180 + 12);
+        check.same("fixed part", x.part(3), 72 * 410 + 29);
+        check.same("metered part", x.part(4), 72 * 410 + 30);
+        for (int t = 0; t < 20; t++) {
+            check.same("tenant " + t, x.amount(t, 3), t < 12 ? 1003 : 1002);
+        }
+        check.same("the landlord", x.amount(NONE, 3), 52000 + 9 + 10);
+        x.closeYear();
+        Houses.refuel(x, 20);
+        x.bill();
+        check.same("next year: the first of six spans", x.amount(11, 0), 2);
+        check.same("next year: 2, 2, 2, 1 and 1", x.amount(NONE, 0), 8);
     }
 
     private static void degrees() {

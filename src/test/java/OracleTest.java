@@ -1,13 +1,16 @@
 import java.util.ArrayList;
+import java.util.Arrays;
 import java.util.List;
 import java.util.Random;
 import java.util.function.IntSupplier;
 
 /** Many runs of calls, the same ones each time: every answer is held against the Oracle's. */
 public final class OracleTest {
-    private static final int RUNS = 1500;
-    private static final int FULL_RUNS = 40;
-    private static final int CALLS = 100;
+    private static final int RUNS = 4000;
+    private static final int FULL_RUNS = 80;
+    private static final int STEPS = 100;
+    /** The document leaves free what an object answers after these. */
+    private static final int MOST_CALLS = 512;
     private static final int THREW = 1000000000;
 
     private final Check check;
@@ -15,6 +18,7 @@ public final class OracleTest {
     private final HeatShares program = new HeatShares();
     private final Oracle oracle = new Oracle();
     private final List<String> calls = new ArrayList<>();
+    private final boolean[][] hasReading = new boolean[6][13];
     private int flats = 0;
     private int tenants = 0;
     private static int byMeters = 0;
@@ -33,7 +37,7 @@ public final class OracleTest {
         for (int run = 0; run < RUNS && !check.isWrong(); run++) {
             OracleTest test = new OracleTest(check, run);
             if (run < FULL_RUNS) {
-                test.runFull();
+                test.runFull(run % 2 == 0);
             } else {
                 test.run();
             }
@@ -55,37 +59,46 @@ public final class OracleTest {
             addFlat();
         }
         setAllDegrees();
-        for (int n = 0; n < CALLS && !check.isWrong(); n++) {
+        for (int n = 0; n < STEPS && !check.isWrong(); n++) {
             step();
         }
     }
 
-    /** Six flats with a change at each time, twenty tenants, twelve layers: as full as can be. */
-    private void runFull() {
+    /**
+     * Six flats with a change at each time, twenty tenants, twelve layers: as full as can be. There
+     * are calls enough for two such years, or for one whose bill is corrected.
+     */
+    private void runFull(boolean corrected) {
         while (flats < 6) {
             addFlat();
         }
         setAllDegrees();
-        for (int year = 0; year < 2; year++) {
-            for (int n = 0; n < 13; n++) {
-                tellDelivery();
-            }
-            tellStock();
-            for (int n = 0; n < 72; n++) {
-                int at = year == 0 ? n : 71 - n;
-                changeFull(at % 6, at / 6);
-            }
-            for (int f = 0; f < 6; f++) {
-                readFlat(f);
-            }
-            makeBill();
-            same("send", program::send, oracle::send);
+        fillYear(true);
+        makeBill();
+        same("send", program::send, oracle::send);
+        if (corrected) {
             ask();
             tellCosts();
             makeBill();
             same("send", program::send, oracle::send);
             ask();
-            close();
+        }
+        countClosed(same("closeYear", program::closeYear, oracle::closeYear));
+        fillYear(false);
+        makeBill();
+    }
+
+    private void fillYear(boolean fromTheFirst) {
+        for (int n = 0; n < 13; n++) {
+            tellDelivery();
+        }
+        tellStock();
+        for (int n = 0; n < 72; n++) {
+            int at = fromTheFirst ? n : 71 - n;
+            changeFull(at % 6, at / 6);
+        }
+        for (int f = 0; f < 6; f++) {
+            readFlat(f);
         }
     }
 
@@ -109,16 +122,19 @@ public final class OracleTest {
             case 10 -> { if (dice.nextInt(3) == 0) setAllDegrees(); }
             case 11 -> tellDegrees();
             case 12 -> pay();
-            case 13, 14, 15, 16 -> makeBill();
-            case 17 -> same("send", program::send, oracle::send);
-            case 18, 19 -> ask();
-            case 20 -> askMeters();
-            case 21 -> { if (dice.nextInt(3) > 0) close(); }
+            case 13, 14, 15 -> makeBill();
+            case 16, 17 -> same("send", program::send, oracle::send);
+            case 18 -> ask();
+            case 19 -> askMeters();
+            case 20, 21 -> close();
             default -> makeYear();
         }
     }
 
     private int same(String call, IntSupplier asked, IntSupplier due) {
+        if (calls.size() >= MOST_CALLS) {
+            return THREW;
+        }
         calls.add(call);
         int got = answer(asked);
         check.same(call, got, answer(due));
@@ -137,8 +153,8 @@ public final class OracleTest {
         void tell();
     }
 
-    private void tell(String call, Fact told, IntSupplier due) {
-        same(call, () -> {
+    private int tell(String call, Fact told, IntSupplier due) {
+        return same(call, () -> {
             told.tell();
             return 0;
         }, due);
@@ -171,9 +187,12 @@ public final class OracleTest {
     }
 
     private void tellReading(int flat, int time, int value) {
-        tell("reading(" + flat + "," + time + "," + value + ")",
+        int got = tell("reading(" + flat + "," + time + "," + value + ")",
                 () -> program.reading(flat, time, value),
                 () -> oracle.reading(flat, time, value));
+        if (got < THREW) {
+            hasReading[flat][time] = value >= 0;
+        }
     }
 
     private void changeReading() {
@@ -188,12 +207,18 @@ public final class OracleTest {
         int seldom = 1 + dice.nextInt(12);
         for (int t = 0; t <= 12; t++) {
             boolean there = t == 0 || t == 12 || dice.nextInt(seldom) == 0;
-            tellReading(flat, t, there ? Math.min(99, value) : -1);
+            if (there || mayHaveReading(flat, t)) {
+                tellReading(flat, t, there ? Math.min(99, value) : -1);
+            }
             value += dice.nextInt(step + 1);
         }
         if (dice.nextInt(12) == 0) {
             tellReading(flat, 12 * dice.nextInt(2), -1);
         }
+    }
+
+    private boolean mayHaveReading(int flat, int time) {
+        return flat < 0 || flat >= flats || hasReading[flat][time];
     }
 
     private void readAll() {
@@ -316,12 +341,13 @@ public final class OracleTest {
         }
     }
 
+    /** All three, and one of the others by turns: a run has no calls to spare. */
     private void askAmounts(int tenant) {
-        for (int what = -1; what <= 4; what++) {
-            int asked = what;
-            same("amount(" + tenant + "," + asked + ")", () -> program.amount(tenant, asked),
-                    () -> oracle.amount(tenant, asked));
-        }
+        int some = dice.nextInt(20) == 0 ? number(-1, 4) : dice.nextInt(3);
+        same("amount(" + tenant + "," + some + ")", () -> program.amount(tenant, some),
+                () -> oracle.amount(tenant, some));
+        same("amount(" + tenant + ",3)", () -> program.amount(tenant, 3),
+                () -> oracle.amount(tenant, 3));
     }
 
     private void ask() {
@@ -344,9 +370,20 @@ public final class OracleTest {
         if (dice.nextInt(4) > 0) {
             makeBill();
         }
-        int got = same("closeYear", program::closeYear, oracle::closeYear);
-        closed += got < THREW ? 1 : 0;
+        countClosed(same("closeYear", program::closeYear, oracle::closeYear));
         ask();
         askMeters();
+    }
+
+    private void countClosed(int got) {
+        if (got >= THREW) {
+            return;
+        }
+        closed++;
+        for (boolean[] times : hasReading) {
+            boolean atEnd = times[12];
+            Arrays.fill(times, false);
+            times[0] = atEnd;
+        }
     }
 }
